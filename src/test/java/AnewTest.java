@@ -10,6 +10,7 @@ public final class AnewTest {
         ties();
         whyAndPassed();
         beside();
+        besideScores();
         besideStates();
         besideLines();
         rungBeside();
@@ -219,6 +220,35 @@ public final class AnewTest {
         Check.due("27: so does why", x.why(0), 0);
         Check.due("27: so does the mark", x.mark(2, 2), 1);
         Check.due("27: again", x.beside(0), 2);
+    }
+
+    /** Without its only bout the winner has score 0, and so has the loser; nobody has 2 or -2. */
+    private static void besideScores() {
+        RankBoard x = apart(4);
+        x.line(0, 0, 0);
+        x.line(2, 2, -15);
+        x.line(-2, -2, 15);
+        x.meet(1);
+        x.draw();
+        x.result(0, true);
+        x.result(1, false);
+        Check.due("24: none moves", x.anew(), 0);
+        Check.due("27: none moves, the upper one had won", x.beside(0), 0);
+        Check.due("27: none moves, the lower one had won", x.beside(1), 0);
+        RankBoard y = apart(2);
+        y.line(0, 0, -1);
+        y.meet(1);
+        y.draw();
+        y.result(0, false);
+        Check.due("24: none moves", y.anew(), 0);
+        Check.due("27: both go down by 1", y.beside(0), 0);
+        y.meet(2);
+        y.draw();
+        y.result(0, true);
+        y.absent(0, true);
+        y.draw();
+        Check.due("24: 0 won and was absent: it goes down", y.anew(), 2);
+        Check.due("27: 0 was only absent and stays, 1 goes down", y.beside(0), 2);
     }
 
     private static void besideStates() {

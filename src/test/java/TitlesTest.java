@@ -39,6 +39,16 @@ public final class TitlesTest {
         RankBoard none = new RankBoard();
         none.meet(1);
         Check.due("29: none", none.leaders(), 0);
+        RankBoard two = new RankBoard();
+        two.wrestler(0, 0, -9);
+        two.wrestler(0, 1, -9);
+        two.meet(1);
+        two.draw();
+        two.result(0, true);
+        Check.due("29: the one on the top", two.leaders(), 1);
+        RankBoard all = mates(16);
+        all.meet(1);
+        Check.due("29: sixteen", all.leaders(), 65535);
     }
 
     private static void playOffStates() {

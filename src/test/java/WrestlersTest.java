@@ -269,6 +269,8 @@ public final class WrestlersTest {
         Check.due("8: without those that left", x.mean(0), 2);
         Check.due("8: shared among none", x.mean(7), -3);
         Check.due("8: NOUGHT", x.finding(), 4);
+        x.leave(3);
+        Check.due("8: without the last, that left", x.mean(1), 1);
         x.leave(0);
         Check.due("8: all left", x.mean(0), -3);
         Check.due("8: BAD", x.mean(8), -1);
