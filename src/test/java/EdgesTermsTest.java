@@ -22,6 +22,7 @@ public final class EdgesTermsTest {
         oneLeader();
         sixteenLeaders();
         findings();
+        orderOfRefusals();
         Check.end();
     }
 
@@ -217,5 +218,21 @@ public final class EdgesTermsTest {
             "told 1 0 = NOTHING", "tear 1 = NOTHING", "lay 0 1 0 = BEYOND", "mark 0 1 = UNLIKE", "mean 1 = NOUGHT",
             "sheet 0 -1 = SIZE", "findings 1 = 2", "findings 2 = 1", "findings 3 = 1", "findings 4 = 1", "findings 5 = 1",
             "finding = 5");
+    }
+
+    /** Where two fit, the first of BAD, FULL, STATE, FINDING; where only the later one fits, that one. */
+    private static void orderOfRefusals() {
+        Run.of("BAD ahead of FULL").each(12, "line 0 0 0").then("line 1 0 0 = BAD", "line 0 0 0 = FULL")
+            .each(16, "wrestler 0 0 NONE").then("wrestler 0 0 8 = BAD", "wrestler 0 0 7 = FULL");
+        Run.mates("FULL ahead of STATE", 16).then("meet 1", "wrestler 0 8 0 = BAD", "wrestler 0 7 0 = FULL");
+        Run.mates("STATE without FULL", 15).then("meet 1", "wrestler 0 8 0 = BAD", "wrestler 0 7 0 = STATE");
+        Run.mates("STATE ahead of FINDING", 2).then("leave 1", "meet 1", "leave 2 = BAD", "leave 1 = STATE", "leave 0 = STATE",
+            "draw", "anew", "leave 2 = BAD", "leave 1 = NOTHING", "leave 0 = 0");
+        Run.mates("BAD ahead of FINDING", 2).then("leave 1", "told 1 7 = BAD", "told 1 6 = NOTHING", "mark 1 0 = BAD",
+            "mark 1 1 = NOTHING", "barred 1 1 = BAD", "barred 1 0 = NOTHING", "lay 4 0 0 = BAD", "lay 3 0 0 = NOTHING",
+            "sheet 4 -1 = BAD", "sheet 3 -1 = SIZE");
+        Run.mates("of two FINDINGS the first that is named", 2).then("mark 0 1 = UNLIKE", "leave 0", "mark 0 1 = NOTHING",
+            "sheet 0 1", "lay 0 1 0 = BEYOND", "copy 0 1 0 0 1 = BEYOND", "tear 0", "lay 0 1 0 = NOTHING",
+            "copy 0 1 0 0 1 = NOTHING");
     }
 }

@@ -63,7 +63,8 @@ public final class RefusedTest {
         all("the next MEET", WRITTEN + "beside 1; meet 1");
         all("the next MEET's first DAY", WRITTEN + "beside 1; meet 1; draw");
         all("nobody is left", SIX + "leave 0; leave 1; leave 2; leave 3; leave 4; leave 5; meet 1; draw");
-        all("FULL of WRESTLERS and LINES", "wrestler 0 0 -9; wrestler 2 1 -9; ".repeat(8) + "line 0 0 1; ".repeat(12));
+        all("FULL of WRESTLERS and LINES", "wrestler 0 0 -9; wrestler 2 1 -9; ".repeat(8) + "line 9 9 1; ".repeat(11)
+            + "line -1 1 1");
         Check.end();
     }
 
