@@ -1,11 +1,16 @@
 import java.util.ArrayList;
 import java.util.Arrays;
 import java.util.List;
+import java.util.Map;
+import java.util.Set;
+import java.util.TreeMap;
+import java.util.TreeSet;
 
 /**
  * What is refused changes nothing but finding() and findings(). In many situations every call is made
  * with arguments inside and outside its edges; behind each that is refused, and behind each that only
- * reads, the object has to answer a long row of calls just as one does that was never asked.
+ * reads, the object has to answer a long row of calls just as one does that was never asked. In all of
+ * them together each call is refused in the ways that README.md tells, and in no other.
  */
 public final class RefusedTest {
     private static final int MIN = Integer.MIN_VALUE, MAX = Integer.MAX_VALUE;
@@ -23,6 +28,9 @@ public final class RefusedTest {
     private static final String LEADERS = "wrestler 0 0 -9; wrestler 1 0 -9; wrestler 2 0 -9; wrestler 0 0 -9; line 0 0 3; "
         + "meet 1; draw; ";
     private static final String WRITTEN = TWO_DAYS + "result 2 1; result 3 0; playOff; anew; ";
+
+    /** How each call was refused, in whichever situation. */
+    private static final Map<String, Set<String>> SEEN = new TreeMap<>();
 
     private final String title;
     private final String[] setup;
@@ -46,7 +54,7 @@ public final class RefusedTest {
         Check.holds(title + ": within 512 calls", setup.length + 1 + findingsBefore.size() + due.size() <= 512);
     }
 
-    public static void main(String[] args) {
+    public static void main(String[] args) throws Exception {
         all("a new object", "");
         all("no MEET yet", SIX);
         all("one LEFT, one is ABSENT", SIX + "leave 0; leave 3; absent 4 1; tear 0");
@@ -65,7 +73,16 @@ public final class RefusedTest {
         all("nobody is left", SIX + "leave 0; leave 1; leave 2; leave 3; leave 4; leave 5; meet 1; draw");
         all("FULL of WRESTLERS and LINES", "wrestler 0 0 -9; wrestler 2 1 -9; ".repeat(8) + "line 9 9 1; ".repeat(11)
             + "line -1 1 1");
+        asReadmeTells();
         Check.end();
+    }
+
+    private static void asReadmeTells() throws Exception {
+        Map<String, Set<String>> told = new Readme().refusals();
+        for (String name : SEEN.keySet()) {
+            Check.holds(name + " was refused by " + SEEN.get(name) + ", README.md tells " + told.get(name),
+                SEEN.get(name).equals(told.get(name)));
+        }
     }
 
     private static void all(String title, String rows) {
@@ -120,6 +137,10 @@ public final class RefusedTest {
         RankBoard x = made();
         long got = Calls.ask(x, name, a);
         boolean refused = got >= -4 && got <= -1 && !name.equals("digest");
+        Set<String> ways = SEEN.computeIfAbsent(name, key -> new TreeSet<>());
+        if (refused) {
+            ways.add(wayOf(got, x.finding()));
+        }
         if (!refused && !READS.contains(name)) {
             return;
         }
@@ -136,6 +157,11 @@ public final class RefusedTest {
             Check.due(what + ": findings(" + f + ")", finding(x, f), findingsBefore.get(f) + (f == found ? 1 : 0));
         }
         Check.holds(what + " left the rest as it was", new Probe(x).answers().equals(due));
+    }
+
+    private static String wayOf(long refusal, int finding) {
+        return refusal == RankBoard.BAD ? "BAD" : refusal == RankBoard.FULL ? "FULL"
+            : refusal == RankBoard.STATE ? "STATE" : Findings.name(finding);
     }
 
     private RankBoard made() {

@@ -8,7 +8,6 @@ import java.util.Arrays;
 final class Run {
     /** What the document lets an object be used for. */
     private static final int MOST_CALLS = 512;
-    private static final String[] FINDINGS = {"", "NOTHING", "BEYOND", "UNLIKE", "NOUGHT", "SIZE"};
 
     private final String title;
     private final RankBoard board = new RankBoard();
@@ -89,7 +88,7 @@ final class Run {
     }
 
     private void due(String what, String call, String due) {
-        int finding = Arrays.asList(FINDINGS).indexOf(due);
+        int finding = Findings.number(due);
         if (finding <= 0 && !isRefusal(due)) {
             Check.due(what, ask(call), number(due));
             return;
